@@ -1,8 +1,12 @@
 import java.io.ByteArrayOutputStream;
 import java.security.MessageDigest;
 import java.security.NoSuchAlgorithmException;
+import java.util.Arrays;
 
-/** Each promise of the document by hand: ordinary inputs, the edges that it names, wrong inputs. */
+/**
+ * Each promise of the document by hand: ordinary inputs, the edges that it names, wrong inputs.
+ * No object is used for more than 512 calls, since answers behind them are free.
+ */
 public final class PromisesTest {
     private static final int NONE = ReleaseLeaves.NONE;
     private static final Class<?> INDEX = IndexOutOfBoundsException.class;
@@ -162,17 +166,11 @@ public final class PromisesTest {
     private static void promise6Proof() {
         promise = "6";
         for (int count = 1; count <= 8; count++) {
+            for (int at = 0; at < count; at++) {
+                isProof(count, at);
+            }
             ReleaseLeaves x = new ReleaseLeaves();
             closeWith(x, count, 2);
-            for (int at = 0; at < count; at++) {
-                byte[] due = proofOf(count, at, 2);
-                String what = "leaf " + at + " of " + count;
-                for (int i = 0; i < due.length; i++) {
-                    is(what + " byte " + i, x.proof(0, at, i), due[i] & 255);
-                }
-                is(what + " behind", x.proof(0, at, due.length), NONE);
-                is(what + " far behind", x.proof(0, at, Integer.MAX_VALUE), NONE);
-            }
             int behind = count;
             fails("no leaf", INDEX, () -> x.proof(0, behind, 0));
             fails("no leaf", INDEX, () -> x.proof(0, -1, 0));
@@ -184,6 +182,18 @@ public final class PromisesTest {
         ReleaseLeaves empty = new ReleaseLeaves();
         empty.close();
         fails("no leaf at all", INDEX, () -> empty.proof(0, 0, 0));
+    }
+
+    private static void isProof(int count, int at) {
+        ReleaseLeaves x = new ReleaseLeaves();
+        closeWith(x, count, 2);
+        byte[] due = proofOf(count, at, 2);
+        String what = "leaf " + at + " of " + count;
+        for (int i = 0; i < due.length; i++) {
+            is(what + " byte " + i, x.proof(0, at, i), due[i] & 255);
+        }
+        is(what + " behind", x.proof(0, at, due.length), NONE);
+        is(what + " far behind", x.proof(0, at, Integer.MAX_VALUE), NONE);
     }
 
     private static void promise7Check() {
@@ -205,19 +215,8 @@ public final class PromisesTest {
     private static void promise8Checked() {
         promise = "8";
         for (int count = 1; count <= 8; count++) {
-            ReleaseLeaves x = new ReleaseLeaves();
-            x.close();
-            closeWith(x, count, 3);
             for (int at = 0; at < count; at++) {
-                byte[] whole = checkOf(1, count, at, 3);
-                x.clearCheck();
-                feed(x, whole, whole.length - 1);
-                is("a byte is missing", x.checked(), 0);
-                x.check(whole[whole.length - 1] & 255);
-                is("leaf " + at + " of " + count, x.checked(), 1);
-                is("it stays", x.checked(), 1);
-                x.check(0);
-                is("a byte too many", x.checked(), 0);
+                holdsWhenWhole(count, at);
             }
         }
         ReleaseLeaves x = new ReleaseLeaves();
@@ -226,7 +225,7 @@ public final class PromisesTest {
             x.byteOf(0, 200);
         }
         byte[] full = new byte[64];
-        java.util.Arrays.fill(full, (byte) 200);
+        Arrays.fill(full, (byte) 200);
         byte[] claim = joined(bytes(0, 40000 / 256, 40000 % 256, 64), full, bytes(0));
         feed(x, claim, claim.length);
         is("not yet closed", x.checked(), 0);
@@ -236,46 +235,66 @@ public final class PromisesTest {
         is("a withdrawn one stays listed", x.checked(), 1);
     }
 
+    private static void holdsWhenWhole(int count, int at) {
+        ReleaseLeaves x = new ReleaseLeaves();
+        x.close();
+        closeWith(x, count, 3);
+        byte[] whole = checkOf(1, count, at, 3);
+        feed(x, whole, whole.length - 1);
+        is("a byte is missing", x.checked(), 0);
+        x.check(whole[whole.length - 1] & 255);
+        is("leaf " + at + " of " + count, x.checked(), 1);
+        is("it stays", x.checked(), 1);
+        x.check(0);
+        is("a byte too many", x.checked(), 0);
+    }
+
     private static void promise8CheckedRefuses() {
         promise = "8";
+        byte[] whole = checkOf(0, 2, 0, 4);
+        for (int at = 0; at < whole.length; at++) {
+            refusesEachBit(whole, at);
+        }
+        for (int length = 0; length < whole.length; length++) {
+            refuses("only " + length + " bytes", Arrays.copyOf(whole, length));
+        }
+        int side = whole.length - 33;
+        byte[] third = whole.clone();
+        third[side] = 2;
+        is("the step's side", whole[side], 1);
+        refuses("a side that is neither 0 nor 1", third);
+        byte[] tail = Arrays.copyOfRange(whole, 1, whole.length);
+        refuses("the other release", joined(bytes(1), tail));
+        refuses("release 2", joined(bytes(2), tail));
+        refuses("release 10", joined(bytes(10), tail));
+        refuses("release 255", joined(bytes(255), tail));
+        refuses("65 bytes", joined(bytes(0, 0, 3, 65), new byte[65], bytes(0)));
+        refuses("255 bytes", joined(bytes(0, 0, 3, 255), new byte[255], bytes(0)));
+        refuses("255 steps", joined(bytes(0, 0, 3, 0, 255), new byte[295]));
+        refuses("eight steps", joined(bytes(0, 0, 3, 0, 8), new byte[8 * 33]));
+        refuses("just 300 bytes", joined(bytes(0, 0, 3, 64), new byte[64], bytes(7), new byte[7 * 33]));
+    }
+
+    private static ReleaseLeaves withTwoReleases() {
         ReleaseLeaves x = new ReleaseLeaves();
         closeWith(x, 2, 4);
         closeWith(x, 2, 5);
-        byte[] whole = checkOf(0, 2, 0, 4);
+        return x;
+    }
+
+    private static void refusesEachBit(byte[] whole, int at) {
+        ReleaseLeaves x = withTwoReleases();
         feed(x, whole, whole.length);
-        for (int at = 0; at < whole.length; at++) {
-            for (int mask = 1; mask < 256; mask *= 2) {
-                x.poke(at, mask);
-                is("another bit at " + at, x.checked(), 0);
-                x.poke(at, mask);
-            }
+        for (int mask = 1; mask < 256; mask *= 2) {
+            x.poke(at, mask);
+            is("another bit at " + at, x.checked(), 0);
+            x.poke(at, mask);
         }
         is("unharmed", x.checked(), 1);
-        int side = whole.length - 33;
-        is("the step's side", whole[side], 1);
-        x.poke(side, 1 ^ 2);
-        is("a side that is neither 0 nor 1", x.checked(), 0);
-        refusesEachPrefix(x, whole);
-        refuses(x, "65 bytes", joined(bytes(0, 0, 3, 65), new byte[65], bytes(0)));
-        refuses(x, "255 bytes", joined(bytes(0, 0, 3, 255), new byte[255], bytes(0)));
-        refuses(x, "255 steps", joined(bytes(0, 0, 3, 0, 255), new byte[295]));
-        refuses(x, "a pair as a leaf", joined(bytes(0, 0, 3, 64), new byte[64], bytes(0)));
-        refuses(x, "release 2", joined(bytes(2), tail(whole)));
-        refuses(x, "release 10", joined(bytes(10), tail(whole)));
-        refuses(x, "release 255", joined(bytes(255), tail(whole)));
-        refuses(x, "the other release", joined(bytes(1), tail(whole)));
     }
 
-    private static void refusesEachPrefix(ReleaseLeaves x, byte[] whole) {
-        for (int length = 0; length < whole.length; length++) {
-            x.clearCheck();
-            feed(x, whole, length);
-            is("only " + length + " bytes", x.checked(), 0);
-        }
-    }
-
-    private static void refuses(ReleaseLeaves x, String what, byte[] claim) {
-        x.clearCheck();
+    private static void refuses(String what, byte[] claim) {
+        ReleaseLeaves x = withTwoReleases();
         feed(x, claim, claim.length);
         is(what, x.checked(), 0);
     }
@@ -373,7 +392,7 @@ public final class PromisesTest {
         x.withdraw(0);
         x.serial(0);
         x.approve(0, 4, 0);
-        failsQuietly(() -> x.approve(0, 4, 4));
+        fails("no role", ARGUMENT, () -> x.approve(0, 4, 4));
         isEvent(x, 1, 0, 0, 3, 1);
         isEvent(x, 1, 1, 0, 3, 1);
         isEvent(x, 1, 2, 0, 0, 2);
@@ -452,31 +471,38 @@ public final class PromisesTest {
 
     private static void promise14Growth() {
         promise = "14";
-        ReleaseLeaves x = new ReleaseLeaves();
-        byte[][] lists = new byte[11][];
-        lists[0] = sha();
         for (int made = 0; made <= 10; made++) {
             for (int from = 0; from <= made; from++) {
-                isGrowth(x, from, made, lists);
+                isGrowth(withReleases(made), from, made);
             }
+            ReleaseLeaves x = withReleases(made);
             int above = made + 1;
             fails("to above", INDEX, () -> x.growth(0, above, 0));
             fails("both above", INDEX, () -> x.growth(above, above, 0));
-            if (made < 10) {
-                closeWith(x, made % 9, made);
-                lists[made + 1] = sha(lists[made], rootOf(made % 9, made));
-            }
         }
-        isGrowth(x, 3, 3, lists);
-        isGrowth(x, 2, 7, lists);
+        ReleaseLeaves x = withReleases(8);
+        isGrowth(x, 3, 3);
+        x.withdraw(2);
+        isGrowth(x, 2, 7);
         fails("from below", INDEX, () -> x.growth(-1, 2, 0));
         fails("from above to", INDEX, () -> x.growth(3, 2, 0));
         fails("both below", INDEX, () -> x.growth(-1, -1, 0));
         fails("i below", INDEX, () -> x.growth(0, 2, -1));
         fails("highest to", INDEX, () -> x.growth(0, Integer.MAX_VALUE, 0));
         is("far behind", x.growth(0, 2, Integer.MAX_VALUE), NONE);
-        x.withdraw(2);
-        isGrowth(x, 2, 7, lists);
+    }
+
+    // Release n has n modulo 4 leaves: ten of them and a whole growth fit into 512 calls.
+    private static ReleaseLeaves withReleases(int made) {
+        ReleaseLeaves x = new ReleaseLeaves();
+        for (int n = 0; n < made; n++) {
+            closeWith(x, n % 4, n);
+        }
+        return x;
+    }
+
+    private static byte[] listOf(int count) {
+        return count == 0 ? sha() : sha(listOf(count - 1), rootOf((count - 1) % 4, count - 1));
     }
 
     private static void promise15Poke() {
@@ -684,10 +710,6 @@ public final class PromisesTest {
         return made;
     }
 
-    private static byte[] tail(byte[] whole) {
-        return java.util.Arrays.copyOfRange(whole, 1, whole.length);
-    }
-
     private static byte[] joined(byte[]... parts) {
         ByteArrayOutputStream out = new ByteArrayOutputStream();
         for (byte[] part : parts) {
@@ -716,12 +738,12 @@ public final class PromisesTest {
         }
     }
 
-    private static void isGrowth(ReleaseLeaves x, int from, int to, byte[][] lists) {
-        byte[] due = lists[from];
+    private static void isGrowth(ReleaseLeaves x, int from, int to) {
+        byte[] due = listOf(from);
         for (int n = from; n < to; n++) {
-            due = joined(due, rootOf(n % 9, n));
+            due = joined(due, rootOf(n % 4, n));
         }
-        due = joined(due, lists[to]);
+        due = joined(due, listOf(to));
         String what = "from " + from + " to " + to;
         for (int i = 0; i < due.length; i++) {
             is(what + " byte " + i, x.growth(from, to, i), due[i] & 255);
@@ -759,10 +781,6 @@ public final class PromisesTest {
         if (got != due) {
             complain(what + " threw " + got + ", due is " + due);
         }
-    }
-
-    private static void failsQuietly(Call call) {
-        fails("a wrong call", ARGUMENT, call);
     }
 
     private static void complain(String text) {
