@@ -87,10 +87,12 @@ public final class ReleaseLeaves {
             return NONE;
         }
         int number = closedCount;
-        releases[number].seal(digester);
+        Release closing = releases[number];
+        closing.sortFiles();
+        closing.tree.grow(closing.files, closing.fileCount, digester);
         digester.begin();
         digester.putAll(lists[number]);
-        digester.putAll(releases[number].tree.top());
+        digester.putAll(closing.tree.top());
         digester.finish(lists[number + 1]);
         closedCount = number + 1;
         return number;
@@ -289,7 +291,7 @@ public final class ReleaseLeaves {
         }
     }
 
-    /** A release, open until it is sealed. */
+    /** A release, open or closed. */
     private static final class Release {
         private final StoredFile[] files = new StoredFile[MOST_FILES];
         private int fileCount;
@@ -329,12 +331,7 @@ public final class ReleaseLeaves {
             return NONE;
         }
 
-        void seal(Digester digester) {
-            sortFiles();
-            tree.grow(files, fileCount, digester);
-        }
-
-        private void sortFiles() {
+        void sortFiles() {
             for (int i = 1; i < fileCount; i++) {
                 StoredFile moving = files[i];
                 int place = i;
@@ -624,6 +621,7 @@ public final class ReleaseLeaves {
             schedule[word] = (schedule[word] << 8) | (b & HIGHEST_BYTE);
             length++;
             if (at == BLOCK_BYTES - 1) {
+                spreadSchedule();
                 mixBlock();
             }
         }
@@ -658,8 +656,17 @@ public final class ReleaseLeaves {
             }
         }
 
+        private void spreadSchedule() {
+            for (int i = BLOCK_WORDS; i < schedule.length; i++) {
+                int early = schedule[i - 15];
+                int late = schedule[i - 2];
+                int spreadEarly = turn(early, 7) ^ turn(early, 18) ^ (early >>> 3);
+                int spreadLate = turn(late, 17) ^ turn(late, 19) ^ (late >>> 10);
+                schedule[i] = schedule[i - 16] + spreadEarly + schedule[i - 7] + spreadLate;
+            }
+        }
+
         private void mixBlock() {
-            spreadSchedule();
             int a = state[0];
             int b = state[1];
             int c = state[2];
@@ -691,16 +698,6 @@ public final class ReleaseLeaves {
             state[5] += f;
             state[6] += g;
             state[7] += h;
-        }
-
-        private void spreadSchedule() {
-            for (int i = BLOCK_WORDS; i < schedule.length; i++) {
-                int early = schedule[i - 15];
-                int late = schedule[i - 2];
-                int spreadEarly = turn(early, 7) ^ turn(early, 18) ^ (early >>> 3);
-                int spreadLate = turn(late, 17) ^ turn(late, 19) ^ (late >>> 10);
-                schedule[i] = schedule[i - 16] + spreadEarly + schedule[i - 7] + spreadLate;
-            }
         }
 
         private static int turn(int word, int by) {
