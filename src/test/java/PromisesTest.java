@@ -1,6 +1,17 @@
-import java.io.ByteArrayOutputStream;
-import java.security.MessageDigest;
-import java.security.NoSuchAlgorithmException;
+import static support.Answers.ARGUMENT;
+import static support.Answers.INDEX;
+import static support.Answers.end;
+import static support.Answers.fails;
+import static support.Answers.is;
+import static support.Answers.under;
+import static support.Measure.bytes;
+import static support.Measure.joined;
+import static support.Measure.leaf;
+import static support.Measure.pair;
+import static support.Measure.proofIn;
+import static support.Measure.rootOver;
+import static support.Measure.sha;
+
 import java.util.Arrays;
 
 /**
@@ -9,16 +20,7 @@ import java.util.Arrays;
  */
 public final class PromisesTest {
     private static final int NONE = ReleaseLeaves.NONE;
-    private static final Class<?> INDEX = IndexOutOfBoundsException.class;
-    private static final Class<?> ARGUMENT = IllegalArgumentException.class;
     private static final int[] WRONG_BYTES = {-1, 256, Integer.MIN_VALUE, Integer.MAX_VALUE};
-
-    private static int wrong = 0;
-    private static String promise = "";
-
-    private interface Call {
-        void run();
-    }
 
     public static void main(String[] args) {
         promise1NewObject();
@@ -41,14 +43,11 @@ public final class PromisesTest {
         promise16Changed();
         promise17Made();
         promise18ClearCheck();
-        System.out.println(wrong == 0 ? "all promises hold" : wrong + " answers are not as due");
-        if (wrong != 0) {
-            System.exit(1);
-        }
+        end("all promises hold");
     }
 
     private static void promise1NewObject() {
-        promise = "1";
+        under("promise 1");
         ReleaseLeaves x = new ReleaseLeaves();
         is("made", x.made(), 0);
         is("checked", x.checked(), 0);
@@ -66,7 +65,7 @@ public final class PromisesTest {
     }
 
     private static void promise2File() {
-        promise = "2";
+        under("promise 2");
         ReleaseLeaves x = new ReleaseLeaves();
         is("lowest name", x.file(0), 0);
         is("highest name", x.file(65535), 1);
@@ -88,7 +87,7 @@ public final class PromisesTest {
     }
 
     private static void promise3ByteOf() {
-        promise = "3";
+        under("promise 3");
         ReleaseLeaves x = new ReleaseLeaves();
         x.file(3);
         x.file(2);
@@ -109,17 +108,17 @@ public final class PromisesTest {
         fails("no byte of a full file", ARGUMENT, () -> x.byteOf(1, 256));
         is("the other file has room", x.byteOf(0, 0), true);
         x.close();
-        isDigest("the full file", x, 0, 0, leaf(2, content));
-        isDigest("the other file", x, 0, 1, leaf(3, new byte[1]));
+        Drive.isDigest("the full file", x, 0, 0, leaf(2, content));
+        Drive.isDigest("the other file", x, 0, 1, leaf(3, new byte[1]));
         fails("a closed file", INDEX, () -> x.byteOf(0, 0));
         x.file(2);
         is("a new file has room", x.byteOf(0, 5), true);
         x.close();
-        isDigest("a new file begins empty", x, 1, 0, leaf(2, bytes(5)));
+        Drive.isDigest("a new file begins empty", x, 1, 0, leaf(2, bytes(5)));
     }
 
     private static void promise4Close() {
-        promise = "4";
+        under("promise 4");
         ReleaseLeaves x = new ReleaseLeaves();
         for (int i = 0; i < 10; i++) {
             is("file of release " + i, x.file(7), 0);
@@ -136,16 +135,16 @@ public final class PromisesTest {
         is("it takes more", x.file(8), 1);
         fails("it is not listed", INDEX, () -> x.root(10, 0));
         for (int i = 0; i < 10; i++) {
-            isRoot("release " + i, x, i, leaf(7, bytes(i)));
+            Drive.isRoot("release " + i, x, i, leaf(7, bytes(i)));
         }
     }
 
     private static void promise5Root() {
-        promise = "5";
+        under("promise 5");
         for (int count = 0; count <= 8; count++) {
             ReleaseLeaves x = new ReleaseLeaves();
             closeWith(x, count, 1);
-            isRoot(count + " leaves", x, 0, rootOf(count, 1));
+            Drive.isRoot(count + " leaves", x, 0, rootOf(count, 1));
             fails("i below", INDEX, () -> x.root(0, -1));
             fails("i above", INDEX, () -> x.root(0, 32));
             fails("i far above", INDEX, () -> x.root(0, Integer.MAX_VALUE));
@@ -160,11 +159,11 @@ public final class PromisesTest {
         three.file(70);
         three.close();
         byte[] pair = pair(leaf(5, bytes()), leaf(70, bytes()));
-        isRoot("a last one goes up as it is", three, 0, pair(pair, leaf(300, bytes())));
+        Drive.isRoot("a last one goes up as it is", three, 0, pair(pair, leaf(300, bytes())));
     }
 
     private static void promise6Proof() {
-        promise = "6";
+        under("promise 6");
         for (int count = 1; count <= 8; count++) {
             for (int at = 0; at < count; at++) {
                 isProof(count, at);
@@ -197,7 +196,7 @@ public final class PromisesTest {
     }
 
     private static void promise7Check() {
-        promise = "7";
+        under("promise 7");
         ReleaseLeaves x = new ReleaseLeaves();
         for (int b : WRONG_BYTES) {
             is("no byte " + b, x.check(b), false);
@@ -213,7 +212,7 @@ public final class PromisesTest {
     }
 
     private static void promise8Checked() {
-        promise = "8";
+        under("promise 8");
         for (int count = 1; count <= 8; count++) {
             for (int at = 0; at < count; at++) {
                 holdsWhenWhole(count, at);
@@ -227,7 +226,7 @@ public final class PromisesTest {
         byte[] full = new byte[64];
         Arrays.fill(full, (byte) 200);
         byte[] claim = joined(bytes(0, 40000 / 256, 40000 % 256, 64), full, bytes(0));
-        feed(x, claim, claim.length);
+        Drive.feed(x, claim);
         is("not yet closed", x.checked(), 0);
         x.close();
         is("closed, with 64 bytes", x.checked(), 1);
@@ -240,7 +239,7 @@ public final class PromisesTest {
         x.close();
         closeWith(x, count, 3);
         byte[] whole = checkOf(1, count, at, 3);
-        feed(x, whole, whole.length - 1);
+        Drive.feed(x, Arrays.copyOf(whole, whole.length - 1));
         is("a byte is missing", x.checked(), 0);
         x.check(whole[whole.length - 1] & 255);
         is("leaf " + at + " of " + count, x.checked(), 1);
@@ -250,7 +249,7 @@ public final class PromisesTest {
     }
 
     private static void promise8CheckedRefuses() {
-        promise = "8";
+        under("promise 8");
         byte[] whole = checkOf(0, 2, 0, 4);
         for (int at = 0; at < whole.length; at++) {
             refusesEachBit(whole, at);
@@ -284,7 +283,7 @@ public final class PromisesTest {
 
     private static void refusesEachBit(byte[] whole, int at) {
         ReleaseLeaves x = withTwoReleases();
-        feed(x, whole, whole.length);
+        Drive.feed(x, whole);
         for (int mask = 1; mask < 256; mask *= 2) {
             x.poke(at, mask);
             is("another bit at " + at, x.checked(), 0);
@@ -295,12 +294,12 @@ public final class PromisesTest {
 
     private static void refuses(String what, byte[] claim) {
         ReleaseLeaves x = withTwoReleases();
-        feed(x, claim, claim.length);
+        Drive.feed(x, claim);
         is(what, x.checked(), 0);
     }
 
     private static void promise9Approve() {
-        promise = "9";
+        under("promise 9");
         ReleaseLeaves x = new ReleaseLeaves();
         x.close();
         x.close();
@@ -326,7 +325,7 @@ public final class PromisesTest {
     }
 
     private static void promise10Withdraw() {
-        promise = "10";
+        under("promise 10");
         ReleaseLeaves x = new ReleaseLeaves();
         closeWith(x, 3, 1);
         x.close();
@@ -337,14 +336,14 @@ public final class PromisesTest {
         is("already", x.withdraw(0), NONE);
         is("three", x.withdraw(1), 3);
         is("it stays listed", x.made(), 3);
-        isRoot("it keeps its root", x, 0, rootOf(3, 1));
+        Drive.isRoot("it keeps its root", x, 0, rootOf(3, 1));
         fails("no release", INDEX, () -> x.withdraw(3));
         fails("no release", INDEX, () -> x.withdraw(-1));
         fails("no release", INDEX, () -> x.withdraw(Integer.MAX_VALUE));
     }
 
     private static void promise11Serial() {
-        promise = "11";
+        under("promise 11");
         ReleaseLeaves x = new ReleaseLeaves();
         x.close();
         x.close();
@@ -357,7 +356,7 @@ public final class PromisesTest {
         is("the first", x.serial(0), 0);
         is("the second", x.serial(0), 1);
         is("the other one is not approved", x.serial(1), NONE);
-        approveByTwo(x, 1);
+        Drive.approveByTwo(x, 1);
         is("over all of them", x.serial(1), 2);
         x.approve(0, 2, 1);
         is("no more approved", x.serial(0), NONE);
@@ -376,7 +375,7 @@ public final class PromisesTest {
     }
 
     private static void promise12History() {
-        promise = "12";
+        under("promise 12");
         ReleaseLeaves x = new ReleaseLeaves();
         x.close();
         x.close();
@@ -393,20 +392,20 @@ public final class PromisesTest {
         x.serial(0);
         x.approve(0, 4, 0);
         fails("no role", ARGUMENT, () -> x.approve(0, 4, 4));
-        isEvent(x, 1, 0, 0, 3, 1);
-        isEvent(x, 1, 1, 0, 3, 1);
-        isEvent(x, 1, 2, 0, 0, 2);
-        isEvent(x, 1, 3, 1, 1, NONE);
-        isEvent(x, 1, 4, 2, NONE, NONE);
-        isEvent(x, 1, 5, 0, 4, 0);
-        isEvent(x, 1, 6, NONE, NONE, NONE);
-        isEvent(x, 0, 0, 0, 15, 3);
-        isEvent(x, 0, 1, 0, 14, 0);
-        isEvent(x, 0, 2, 1, 0, NONE);
-        isEvent(x, 0, 3, NONE, NONE, NONE);
-        isEvent(x, 0, -1, NONE, NONE, NONE);
-        isEvent(x, 0, Integer.MIN_VALUE, NONE, NONE, NONE);
-        isEvent(x, 0, Integer.MAX_VALUE, NONE, NONE, NONE);
+        Drive.isEvent(x, 1, 0, 0, 3, 1);
+        Drive.isEvent(x, 1, 1, 0, 3, 1);
+        Drive.isEvent(x, 1, 2, 0, 0, 2);
+        Drive.isEvent(x, 1, 3, 1, 1, NONE);
+        Drive.isEvent(x, 1, 4, 2, NONE, NONE);
+        Drive.isEvent(x, 1, 5, 0, 4, 0);
+        Drive.isEvent(x, 1, 6, NONE, NONE, NONE);
+        Drive.isEvent(x, 0, 0, 0, 15, 3);
+        Drive.isEvent(x, 0, 1, 0, 14, 0);
+        Drive.isEvent(x, 0, 2, 1, 0, NONE);
+        Drive.isEvent(x, 0, 3, NONE, NONE, NONE);
+        Drive.isEvent(x, 0, -1, NONE, NONE, NONE);
+        Drive.isEvent(x, 0, Integer.MIN_VALUE, NONE, NONE, NONE);
+        Drive.isEvent(x, 0, Integer.MAX_VALUE, NONE, NONE, NONE);
         fails("not given", INDEX, () -> x.history(2, 0, 0));
         fails("not given", INDEX, () -> x.history(-1, 0, 0));
         fails("another what", INDEX, () -> x.history(0, 0, 3));
@@ -416,11 +415,11 @@ public final class PromisesTest {
     }
 
     private static void promise12HistoryIsFull() {
-        promise = "12";
+        under("promise 12");
         ReleaseLeaves x = new ReleaseLeaves();
         x.close();
         x.close();
-        approveByTwo(x, 0);
+        Drive.approveByTwo(x, 0);
         is("serial", x.serial(0), 0);
         for (int i = 3; i < 60; i++) {
             x.approve(1, i % 16, i % 4);
@@ -432,20 +431,20 @@ public final class PromisesTest {
         is("given, but no event", x.serial(1), 2);
         is("still approved", x.approve(0, 6, 1), 1);
         is("still withdrawn", x.withdraw(0), 1);
-        isEvent(x, 0, 3 + 38, 0, 5, 98 % 4);
-        isEvent(x, 0, 3 + 39, NONE, NONE, NONE);
-        isEvent(x, 2, 56, 0, 59 % 16, 59 % 4);
-        isEvent(x, 2, 57, 1, 1, NONE);
-        isEvent(x, 2, 58, NONE, NONE, NONE);
+        Drive.isEvent(x, 0, 3 + 38, 0, 5, 98 % 4);
+        Drive.isEvent(x, 0, 3 + 39, NONE, NONE, NONE);
+        Drive.isEvent(x, 2, 56, 0, 59 % 16, 59 % 4);
+        Drive.isEvent(x, 2, 57, 1, 1, NONE);
+        Drive.isEvent(x, 2, 58, NONE, NONE, NONE);
     }
 
     private static void promise13Digest() {
-        promise = "13";
+        under("promise 13");
         for (int count = 0; count <= 8; count++) {
             ReleaseLeaves x = new ReleaseLeaves();
             closeWith(x, count, 6);
             for (int at = 0; at < count; at++) {
-                isDigest("leaf " + at + " of " + count, x, 0, at, leafOf(at, 6));
+                Drive.isDigest("leaf " + at + " of " + count, x, 0, at, leafOf(at, 6));
                 int leaf = at;
                 fails("i below", INDEX, () -> x.digest(0, leaf, -1));
                 fails("i above", INDEX, () -> x.digest(0, leaf, 32));
@@ -465,12 +464,12 @@ public final class PromisesTest {
                 x.byteOf(0, content[i] & 255);
             }
             x.close();
-            isDigest(length + " bytes", x, 0, 0, leaf(65535 - length, content));
+            Drive.isDigest(length + " bytes", x, 0, 0, leaf(65535 - length, content));
         }
     }
 
     private static void promise14Growth() {
-        promise = "14";
+        under("promise 14");
         for (int made = 0; made <= 10; made++) {
             for (int from = 0; from <= made; from++) {
                 isGrowth(withReleases(made), from, made);
@@ -506,12 +505,12 @@ public final class PromisesTest {
     }
 
     private static void promise15Poke() {
-        promise = "15";
+        under("promise 15");
         ReleaseLeaves x = new ReleaseLeaves();
         x.file(1);
         x.byteOf(0, 0xa5);
         x.close();
-        feed(x, bytes(0, 0, 1, 1, 0, 0), 6);
+        Drive.feed(x, bytes(0, 0, 1, 1, 0, 0));
         is("two bits", x.poke(4, 0xa0), true);
         is("not yet", x.checked(), 0);
         is("the lowest 8 bits", x.poke(4, 0xffffff05), true);
@@ -535,22 +534,22 @@ public final class PromisesTest {
     }
 
     private static void promise16Changed() {
-        promise = "16";
+        under("promise 16");
         ReleaseLeaves x = new ReleaseLeaves();
-        fileOf(x, 9, 1, 2, 3);
-        fileOf(x, 4);
-        fileOf(x, 6, 1);
+        Drive.file(x, 9, 1, 2, 3);
+        Drive.file(x, 4);
+        Drive.file(x, 6, 1);
         x.close();
-        fileOf(x, 9, 1, 2, 3);
-        fileOf(x, 6, 1, 0);
-        fileOf(x, 4);
-        fileOf(x, 5, 1);
+        Drive.file(x, 9, 1, 2, 3);
+        Drive.file(x, 6, 1, 0);
+        Drive.file(x, 4);
+        Drive.file(x, 5, 1);
         x.close();
-        fileOf(x, 9, 1, 2, 4);
-        fileOf(x, 6, 1);
+        Drive.file(x, 9, 1, 2, 4);
+        Drive.file(x, 6, 1);
         x.close();
         x.close();
-        fileOf(x, 9, 1, 2, 4);
+        Drive.file(x, 9, 1, 2, 4);
         x.close();
         is("none ahead", x.changed(0, 0), 2);
         is("none ahead", x.changed(0, 2), 2);
@@ -571,7 +570,7 @@ public final class PromisesTest {
     }
 
     private static void promise17Made() {
-        promise = "17";
+        under("promise 17");
         ReleaseLeaves x = new ReleaseLeaves();
         for (int i = 0; i < 10; i++) {
             is("made", x.made(), i);
@@ -585,10 +584,10 @@ public final class PromisesTest {
     }
 
     private static void promise18ClearCheck() {
-        promise = "18";
+        under("promise 18");
         ReleaseLeaves x = new ReleaseLeaves();
         x.clearCheck();
-        fileOf(x, 258, 9);
+        Drive.file(x, 258, 9);
         x.close();
         for (int i = 0; i < 300; i++) {
             x.check(1);
@@ -596,7 +595,7 @@ public final class PromisesTest {
         x.clearCheck();
         is("nothing holds", x.checked(), 0);
         fails("no bytes", INDEX, () -> x.poke(0, 1));
-        feed(x, bytes(0, 1, 2, 1, 9, 0), 6);
+        Drive.feed(x, bytes(0, 1, 2, 1, 9, 0));
         is("it begins anew", x.checked(), 1);
         fails("only what came since", INDEX, () -> x.poke(6, 1));
         x.clearCheck();
@@ -638,104 +637,18 @@ public final class PromisesTest {
         return row;
     }
 
-    private static byte[][] rowAbove(byte[][] row) {
-        byte[][] above = new byte[(row.length + 1) / 2][];
-        for (int i = 0; i < above.length; i++) {
-            above[i] = 2 * i + 1 < row.length ? pair(row[2 * i], row[2 * i + 1]) : row[2 * i];
-        }
-        return above;
-    }
-
     private static byte[] rootOf(int count, int salt) {
-        byte[][] row = leavesOf(count, salt);
-        while (row.length > 1) {
-            row = rowAbove(row);
-        }
-        return row.length == 0 ? sha() : row[0];
+        return rootOver(leavesOf(count, salt));
     }
 
     private static byte[] proofOf(int count, int at, int salt) {
-        byte[] steps = new byte[0];
-        byte[][] row = leavesOf(count, salt);
-        int place = at;
-        while (row.length > 1) {
-            if (place % 2 == 1) {
-                steps = joined(steps, bytes(0), row[place - 1]);
-            } else if (place + 1 < row.length) {
-                steps = joined(steps, bytes(1), row[place + 1]);
-            }
-            row = rowAbove(row);
-            place /= 2;
-        }
-        return joined(bytes(steps.length / 33), steps);
+        return proofIn(leavesOf(count, salt), at);
     }
 
     private static byte[] checkOf(int release, int count, int at, int salt) {
         byte[] content = contentOf(at, salt);
         int name = nameOf(at);
         return joined(bytes(release, name / 256, name % 256, content.length), content, proofOf(count, at, salt));
-    }
-
-    private static void feed(ReleaseLeaves x, byte[] bytes, int count) {
-        for (int i = 0; i < count; i++) {
-            x.check(bytes[i] & 255);
-        }
-    }
-
-    private static void fileOf(ReleaseLeaves x, int name, int... content) {
-        int file = x.file(name);
-        for (int b : content) {
-            x.byteOf(file, b);
-        }
-    }
-
-    private static void approveByTwo(ReleaseLeaves x, int release) {
-        x.approve(release, 1, 0);
-        x.approve(release, 2, 1);
-    }
-
-    private static byte[] leaf(int name, byte[] content) {
-        return sha(bytes(0, name / 256, name % 256), content);
-    }
-
-    private static byte[] pair(byte[] one, byte[] other) {
-        return sha(bytes(1), one, other);
-    }
-
-    private static byte[] bytes(int... values) {
-        byte[] made = new byte[values.length];
-        for (int i = 0; i < values.length; i++) {
-            made[i] = (byte) values[i];
-        }
-        return made;
-    }
-
-    private static byte[] joined(byte[]... parts) {
-        ByteArrayOutputStream out = new ByteArrayOutputStream();
-        for (byte[] part : parts) {
-            out.writeBytes(part);
-        }
-        return out.toByteArray();
-    }
-
-    private static byte[] sha(byte[]... parts) {
-        try {
-            return MessageDigest.getInstance("SHA-256").digest(joined(parts));
-        } catch (NoSuchAlgorithmException e) {
-            throw new IllegalStateException(e);
-        }
-    }
-
-    private static void isRoot(String what, ReleaseLeaves x, int release, byte[] due) {
-        for (int i = 0; i < 32; i++) {
-            is(what + " root byte " + i, x.root(release, i), due[i] & 255);
-        }
-    }
-
-    private static void isDigest(String what, ReleaseLeaves x, int release, int leaf, byte[] due) {
-        for (int i = 0; i < 32; i++) {
-            is(what + " digest byte " + i, x.digest(release, leaf, i), due[i] & 255);
-        }
     }
 
     private static void isGrowth(ReleaseLeaves x, int from, int to) {
@@ -749,42 +662,5 @@ public final class PromisesTest {
             is(what + " byte " + i, x.growth(from, to, i), due[i] & 255);
         }
         is(what + " behind", x.growth(from, to, due.length), NONE);
-    }
-
-    private static void isEvent(ReleaseLeaves x, int serial, int k, int kind, int subject, int role) {
-        String what = "event " + k + " of serial " + serial;
-        is(what + " kind", x.history(serial, k, 0), kind);
-        is(what + " subject", x.history(serial, k, 1), subject);
-        is(what + " role", x.history(serial, k, 2), role);
-    }
-
-    private static void is(String what, long got, long due) {
-        if (got != due) {
-            complain(what + " answered " + got + ", due is " + due);
-        }
-    }
-
-    private static void is(String what, boolean got, boolean due) {
-        if (got != due) {
-            complain(what + " answered " + got + ", due is " + due);
-        }
-    }
-
-    // The very class counts: the machine's own exceptions stand below the document's ones.
-    private static void fails(String what, Class<?> due, Call call) {
-        Class<?> got = null;
-        try {
-            call.run();
-        } catch (RuntimeException e) {
-            got = e.getClass();
-        }
-        if (got != due) {
-            complain(what + " threw " + got + ", due is " + due);
-        }
-    }
-
-    private static void complain(String text) {
-        wrong++;
-        System.out.println("promise " + promise + ": " + text);
     }
 }
