@@ -305,13 +305,16 @@ public final class CheckBoundariesTest {
 
     @Says(promise = 8, words = "a byte, 0 when the other one comes ahead of it, else 1")
     private static void aSideIs0Or1() {
-        byte[] ahead = claimOf(4, 5);
-        byte[] behind = claimOf(0, 5);
-        for (int side : new int[] {2, 3, 128, 254, 255}) {
-            ahead[ahead.length - 33] = (byte) side;
-            refuses("ahead, side " + side, ahead);
-            behind[behind.length - 33] = (byte) side;
-            refuses("behind, side " + side, behind);
+        int[] leavesWithThreeSteps = {0, 1, 2, 3};
+        for (int at : leavesWithThreeSteps) {
+            byte[] whole = claimOf(at, 5);
+            for (int step = 1; step <= 3; step++) {
+                for (int side : new int[] {2, 3, 128, 254, 255}) {
+                    byte[] other = whole.clone();
+                    other[whole.length - 33 * step] = (byte) side;
+                    refuses("leaf " + at + ", step " + step + " from the end, side " + side, other);
+                }
+            }
         }
     }
 
