@@ -362,13 +362,19 @@ public final class ReleaseLeaves {
     private static final class Tree {
         // Eight leaves need rows of 8, 4, 2 and 1.
         private static final int MOST_ROWS = 4;
+        private static final int MOST_NODES = 2 * MOST_FILES - 1;
 
-        private final int[][] nodes = new int[MOST_ROWS * MOST_FILES][DIGEST_BYTES];
+        private final int[][] nodes = new int[MOST_NODES][DIGEST_BYTES];
         private final int[] widths = new int[MOST_ROWS];
         private int topRow;
 
         int[] node(int row, int place) {
-            return nodes[row * MOST_FILES + place];
+            return nodes[rowStart(row) + place];
+        }
+
+        // Each row has half the room of the one below, so that a new object stays small.
+        private static int rowStart(int row) {
+            return 2 * MOST_FILES - (2 * MOST_FILES >> row);
         }
 
         int[] top() {
